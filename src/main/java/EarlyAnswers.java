@@ -748,8 +748,6 @@ public final class EarlyAnswers {
                 if (holds(document)) {
                     lists[word][kept] = document;
                     kept++;
-                } else {
-                    counts[word][document] = 0;
                 }
             }
             postings[word] = kept;

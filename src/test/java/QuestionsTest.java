@@ -39,6 +39,10 @@ final class QuestionsTest {
         t.illegal("what 4", () -> t.x.scored(0, 4));
         t.illegal("what -1", () -> t.x.scored(0, -1));
         t.illegal("what, also without such a word", () -> t.x.scored(9, 4));
+        t.ask("a c^4 +c^5");
+        t.row("the second one twice", "1 9 0 1", () -> t.x.scored(0, 1), () -> t.x.scored(1, 1),
+            () -> t.x.scored(0, 2), () -> t.x.scored(1, 2));
+        t.ask("b^3 +a \"c d\" zz b ~2");
         t.add("b");
         // of six documents b has three: 2
         t.due("bound now", t.x.scored(0, 3), 4 * 2 * 500);
@@ -63,6 +67,10 @@ final class QuestionsTest {
         t.ask("\"a c\" \"c a\"");
         t.row("both phrases", "5 0 5 5 3", () -> t.x.why(0), () -> t.x.why(1), () -> t.x.why(2), () -> t.x.why(3),
             () -> t.x.why(4));
+        t.ask("\"b c\" \"a c\"");
+        t.row("the second phrase is missing", "5 3", () -> t.x.why(0), () -> t.x.why(1));
+        t.ask("\"a c\" \"b c\"");
+        t.row("the first phrase is missing", "5 3", () -> t.x.why(0), () -> t.x.why(1));
         t.ask("+zz a");
         t.row("one of must is not known", "3 3", () -> t.x.why(0), () -> t.x.why(4));
         t.ask("+zz");

@@ -23,7 +23,7 @@ final class RoomTest {
                     answer(dearest[i]);
                 }
                 long each = (bytes() - before) / 20;
-                t.due("call " + i + " takes " + each + " bytes", round > 0 && each > 2000 ? 1 : 0, 0);
+                t.due("call " + i + " takes " + each + " bytes", round > 0 && each > 8000 ? 1 : 0, 0);
             }
         }
         long before = bytes();
