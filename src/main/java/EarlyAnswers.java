@@ -1151,7 +1151,10 @@ public final class EarlyAnswers {
                 case BEHIND_SIGN:
                     return beginWord(sign, IN_WORD);
                 case IN_WORD:
-                    return isLetter(sign) ? spellOn(sign) : endWord(sign);
+                    if (isLetter(sign)) {
+                        return spellOn(sign);
+                    }
+                    return endWord(sign) ? stepBetween(sign) : 0;
                 case BEHIND_CARET:
                     return readBoost(sign);
                 case BEHIND_TILDE:
@@ -1159,7 +1162,12 @@ public final class EarlyAnswers {
                 case IN_PHRASE:
                     return stepInPhrase(sign);
                 case IN_PHRASE_WORD:
-                    return isLetter(sign) ? spellOn(sign) : endPhraseWord(sign);
+                    if (isLetter(sign)) {
+                        return spellOn(sign);
+                    }
+                    draft.lengthenPhrase(words.numberOf(spelling));
+                    state = IN_PHRASE;
+                    return stepInPhrase(sign);
                 default:
                     return stepBetween(sign);
             }
@@ -1226,17 +1234,20 @@ public final class EarlyAnswers {
             return 0;
         }
 
-        private int endWord(int sign) {
-            if (mark == '-') {
-                draft.refuse(words.numberOf(spelling));
-            } else if (sign == '^') {
+        /** Whether the PART ends ahead of this sign, too. */
+        private boolean endWord(int sign) {
+            if (mark != '-' && sign == '^') {
                 state = BEHIND_CARET;
-                return 0;
+                return false;
+            }
+            int word = words.numberOf(spelling);
+            if (mark == '-') {
+                draft.refuse(word);
             } else {
-                draft.want(words.numberOf(spelling), 1, mark == '+');
+                draft.want(word, 1, mark == '+');
             }
             state = BETWEEN;
-            return stepBetween(sign);
+            return true;
         }
 
         private int readBoost(int sign) {
@@ -1269,12 +1280,6 @@ public final class EarlyAnswers {
                 return TOO_MANY;
             }
             return beginWord(sign, IN_PHRASE_WORD);
-        }
-
-        private int endPhraseWord(int sign) {
-            draft.lengthenPhrase(words.numberOf(spelling));
-            state = IN_PHRASE;
-            return stepInPhrase(sign);
         }
 
         private static boolean isDigit(int sign) {
@@ -1364,24 +1369,20 @@ public final class EarlyAnswers {
         }
 
         int phraseBegins(int document, int j) {
+            int[] text = library.texts[document];
+            int[] phrase = question.phraseWords[j];
+            int length = question.phraseLengths[j];
             int begins = 0;
-            int lastBegin = library.lengths[document] - question.phraseLengths[j];
-            for (int position = 0; position <= lastBegin; position++) {
-                if (standsAt(document, position, j)) {
+            for (int position = 0; position + length <= library.lengths[document]; position++) {
+                int fitting = 0;
+                while (fitting < length && text[position + fitting] == phrase[fitting]) {
+                    fitting++;
+                }
+                if (fitting == length) {
                     begins++;
                 }
             }
             return begins;
-        }
-
-        private boolean standsAt(int document, int position, int j) {
-            int[] text = library.texts[document];
-            for (int k = 0; k < question.phraseLengths[j]; k++) {
-                if (text[position + k] != question.phraseWords[j][k]) {
-                    return false;
-                }
-            }
-            return true;
         }
 
         int pointsOf(int document, int i) {
@@ -1688,7 +1689,10 @@ public final class EarlyAnswers {
                 sought++;
                 cursors[line[0]].seek(document);
             } else {
-                seekAll(document);
+                if (seekAll(document)) {
+                    lookAt(document);
+                }
+                leave(document);
             }
             return true;
         }
@@ -1745,7 +1749,8 @@ public final class EarlyAnswers {
             }
         }
 
-        private void seekAll(int document) {
+        /** Whether any of HERE is at the DOCUMENT then. */
+        private boolean seekAll(int document) {
             boolean any = false;
             for (int slot = 0; slot < here; slot++) {
                 Cursor cursor = cursors[line[slot]];
@@ -1753,9 +1758,10 @@ public final class EarlyAnswers {
                 cursor.seek(document);
                 any = any || cursor.place == document;
             }
-            if (any) {
-                lookAt(document);
-            }
+            return any;
+        }
+
+        private void leave(int document) {
             for (int slot = 0; slot < here; slot++) {
                 Cursor cursor = cursors[line[slot]];
                 if (cursor.place == document) {

@@ -1,5 +1,6 @@
 import java.util.NoSuchElementException;
 import java.util.function.IntSupplier;
+import java.util.function.IntUnaryOperator;
 
 /** One object under test, with texts in place of numbers, and the answers that are due. */
 final class Tester {
@@ -58,6 +59,16 @@ final class Tester {
             wrong++;
             System.out.println(name + ": " + call + " answered " + got + ", due is " + want);
         }
+    }
+
+    /** What is answered for each of these numbers, behind one another: just inside an edge, at it, just beyond it. */
+    void each(String call, String want, IntUnaryOperator one, int... numbers) {
+        IntSupplier[] calls = new IntSupplier[numbers.length];
+        for (int i = 0; i < numbers.length; i++) {
+            int number = numbers[i];
+            calls[i] = () -> one.applyAsInt(number);
+        }
+        row(call, want, calls);
     }
 
     /** Each of the answers behind one another, as texts. */

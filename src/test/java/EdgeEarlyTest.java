@@ -1,0 +1,323 @@
+import java.util.stream.Collectors;
+import java.util.stream.IntStream;
+
+/**
+ * The edges that "Terms" names for EARLY, and those of promises 27 to 29, 33 and 41: runs reckoned by hand, turn by
+ * turn, in which a number is just what it is compared with, or just beyond it.
+ */
+final class EdgeEarlyTest {
+    private static final int LEAST = Integer.MIN_VALUE;
+    private static final int GREATEST = Integer.MAX_VALUE;
+
+    public static void main(String[] args) {
+        oneToTen();
+        floorByK();
+        boundIsFloor();
+        boundIsAboveFloor();
+        boundIsBelowFloor();
+        mostNearOfOneTwoThree();
+        skippedAtFloor();
+        notSkippedAboveFloor();
+        skippedAtFloorWithMostNear();
+        skippedToTheNextList();
+        skippedToTheBlockBehind();
+        noBlockReaches();
+        soughtToTheEnd();
+        lastIsTheDocument();
+        noneIsAtThePlace();
+        scoreIsFloor();
+        asAnswers();
+        endedAtFirst();
+        noScoredWords();
+        goneOnesAreLookedAt();
+        best();
+        opened();
+        swift();
+        depth();
+        Tester.end("edges of early");
+    }
+
+    /** All nine numbers of EARLY: best, FLOOR, TURNS, OPENED, WORK, SOUGHT, SKIPS, LOOKED AT, SPARED. */
+    private static void dueEarly(Tester t, int k, String want) {
+        String got = IntStream.rangeClosed(0, 8).mapToObj(what -> Integer.toString(t.x.early(k, what)))
+            .collect(Collectors.joining(" "));
+        t.row("early by " + k + " is " + got + ", due is " + want + ":", "1", () -> got.equals(want) ? 1 : 0);
+    }
+
+    private static Tester alike(String name, int documents, String text) {
+        Tester t = new Tester(name);
+        for (int i = 0; i < documents; i++) {
+            t.add(text);
+        }
+        return t;
+    }
+
+    /** "EARLY by k (1 to 10)". */
+    private static void oneToTen() {
+        Tester t = alike("27 1 to 10", 12, "a");
+        t.ask("a");
+        t.each("k", "illegal 1 2 9 10 illegal", k -> t.x.early(k, 0), 0, 1, 2, 9, 10, 11);
+        t.each("far off", "illegal illegal illegal", k -> t.x.early(k, 0), -1, GREATEST, LEAST);
+        t.each("what", "illegal 10 0 illegal illegal illegal", what -> t.x.early(10, what), -1, 0, 8, 9, GREATEST,
+            LEAST);
+        t.each("both", "illegal illegal", k -> t.x.early(k, 9), 0, 11);
+        t.row("counted once", "0 11", () -> t.x.status(0), () -> t.x.status(1));
+    }
+
+    /** "FLOOR: the SCORE of the k-th best by now, 0, as long as there are fewer." */
+    private static void floorByK() {
+        Tester t = Tester.with("27 FLOOR", "a x x x", "a", "a a");
+        t.ask("a");
+        t.each("floor", "666 500 333 0 0", k -> t.x.early(k, 1), 1, 2, 3, 4, 10);
+        t.each("how many", "1 2 3 3 3", k -> t.x.early(k, 0), 1, 2, 3, 4, 10);
+    }
+
+    /** "the first LIST by which it is above FLOOR is the PIVOT; none: it is over": BOUND is just FLOOR. */
+    private static void boundIsFloor() {
+        Tester t = Tester.with("27 BOUND is FLOOR", "a", "a");
+        t.ask("a");
+        // 0 is looked at: 500, as the BOUND is
+        dueEarly(t, 1, "1 500 2 1 2 1 0 1 0");
+        // the FLOOR is 0 until two are there
+        dueEarly(t, 2, "2 500 3 1 2 2 0 2 0");
+        dueEarly(t, 3, "2 0 3 1 2 2 0 2 0");
+    }
+
+    private static void boundIsAboveFloor() {
+        Tester t = Tester.with("27 BOUND is above FLOOR", "a", "a a");
+        t.ask("a");
+        dueEarly(t, 1, "1 666 3 1 2 2 0 2 0");
+    }
+
+    private static void boundIsBelowFloor() {
+        Tester t = Tester.with("27 BOUND is below FLOOR", "a b", "a");
+        t.ask("a b");
+        // 0: 500 and 1000; the BOUND of a is 500, b is ENDED
+        dueEarly(t, 1, "1 1500 2 2 3 2 0 1 0");
+    }
+
+    /** "MOSTNEAR: 50 times w for each two SCORED WORDS one behind the other in order." */
+    private static void mostNearOfOneTwoThree() {
+        Tester one = Tester.with("27 MOSTNEAR of one", "a", "a");
+        one.ask("a ~9");
+        dueEarly(one, 1, "1 500 2 1 2 1 0 1 0");
+        Tester two = Tester.with("27 MOSTNEAR of two", "a b", "a b");
+        two.ask("a b ~1");
+        // 1050, and BOUNDS are 50 and 500 and 500
+        dueEarly(two, 1, "1 1050 2 2 4 2 0 1 0");
+        Tester less = Tester.with("27 MOSTNEAR is above", "a x b", "a b");
+        less.ask("a b ~1");
+        // 1000 first
+        dueEarly(less, 1, "1 1050 3 2 4 4 0 2 0");
+        Tester three = Tester.with("27 MOSTNEAR of three", "a b c", "a b c");
+        three.ask("a b c ~2");
+        // 1500 and 100 and 100
+        dueEarly(three, 1, "1 1700 2 3 6 3 0 1 0");
+    }
+
+    /** "added up, with MOSTNEAR: is that not above FLOOR, it is a SKIP": it is just FLOOR. */
+    private static void skippedAtFloor() {
+        Tester t = Tester.with("27 SKIP at FLOOR", "a", "a", "a", "a", "a a");
+        t.x.repack(2);
+        t.ask("a");
+        // 0: 500; at 1 and at 2 a BLOCK of 500 is skipped, to 2 and to 4; 4: 666; none is left
+        dueEarly(t, 1, "1 666 5 2 3 2 2 2 1");
+        // 0, 1 (FLOOR 500), a skip from 2 to 4, 4, none is left
+        dueEarly(t, 2, "2 500 5 2 3 3 1 3 1");
+    }
+
+    private static void notSkippedAboveFloor() {
+        Tester t = Tester.with("27 no SKIP above FLOOR", "a", "a", "a a", "a", "a a");
+        t.x.repack(2);
+        t.ask("a");
+        // 0: 500; a skip from 1 to 2; 2: 666, as the BOUND is
+        dueEarly(t, 1, "1 666 4 2 4 2 1 2 1");
+    }
+
+    private static void skippedAtFloorWithMostNear() {
+        Tester t = Tester.with("27 SKIP with MOSTNEAR", "a b", "a b", "a b", "a b", "a a b");
+        t.x.repack(2);
+        t.ask("a b ~1");
+        // 0: 1050; at 1 and at 2 BLOCKS of 500 and 500 and 50; 4: 666 and 500 and 50
+        dueEarly(t, 1, "1 1216 5 4 6 4 2 2 2");
+    }
+
+    /** "each of HERE is DIPPED to the least of LAST and 1 .., and of PLACE of the first LIST that is not HERE". */
+    private static void skippedToTheNextList() {
+        Tester t = Tester.with("27 SKIP to the next LIST", "a", "a", "x", "a b", "a", "x", "a a");
+        t.ask("a b");
+        // 0: 500; a skip from 1, not to 5, but to 3, where b is; 3: 500 and 1500; no BOUND is above that
+        dueEarly(t, 1, "1 2000 4 2 5 3 1 2 1");
+        t.due("best", t.x.best(1, 0), 3);
+    }
+
+    private static void skippedToTheBlockBehind() {
+        Tester t = Tester.with("27 SKIP to LAST and 1", "a", "a", "a", "a", "a a", "b");
+        t.x.repack(2);
+        t.ask("a b");
+        // 0: 500; skips from 1 to 2 and from 2 to 4, though b is at 5; 4: 666; 5: 1500
+        dueEarly(t, 1, "1 1500 6 3 4 3 2 3 1");
+    }
+
+    /** "the first BLOCK, from its own on, whose LAST is not less than P, if there is one". */
+    private static void noBlockReaches() {
+        Tester t = Tester.with("27 no BLOCK reaches P", "a b", "b", "a", "x", "x", "b b");
+        t.x.repack(2);
+        t.ask("a b");
+        // 0: 1000 and 1000; at 1 a skip to 2; P is 5 then: a has no BLOCK there, b 1332: a skip beyond all
+        dueEarly(t, 1, "1 2000 4 2 4 2 2 1 1");
+    }
+
+    /** "(is there none, it is ENDED)": SOUGHT, but nothing is OPENED. */
+    private static void soughtToTheEnd() {
+        Tester t = Tester.with("27 SOUGHT to the end", "a", "x", "a", "x", "x", "b");
+        t.x.repack(2);
+        t.ask("a b");
+        // 0: 1000; P is 5, a is SOUGHT to it and ENDED; 5: 1500
+        dueEarly(t, 1, "1 1500 4 2 3 3 0 2 0");
+    }
+
+    /** "as long as LAST of its BLOCK is less than that": LAST is just the DOCUMENT. */
+    private static void lastIsTheDocument() {
+        Tester t = alike("27 LAST", 4, "a");
+        t.x.repack(2);
+        t.ask("a");
+        dueEarly(t, 10, "4 0 5 2 4 4 0 4 0");
+        t.each("best", "0 1 2 3 -1", i -> t.x.best(10, i), 0, 1, 2, 3, 4);
+    }
+
+    /** "is any at P then": after a DIP PLACE may be a DOCUMENT that the LIST has not. */
+    private static void noneIsAtThePlace() {
+        Tester t = Tester.with("27 none is at P", "a", "x", "a");
+        t.ask("a");
+        // 0; 1 is SOUGHT, but not LOOKED AT; 2; none is left
+        dueEarly(t, 10, "2 0 4 1 2 3 0 2 0");
+    }
+
+    /** "its SCORE is above FLOOR, or there are fewer than k": it is just FLOOR. */
+    private static void scoreIsFloor() {
+        Tester t = Tester.with("27 SCORE is FLOOR", "a", "a", "a a z");
+        t.ask("a -z");
+        // all three are looked at: 500, 500, no MATCH
+        dueEarly(t, 1, "1 500 4 1 3 3 0 3 0");
+        t.each("by 1", "0 -1", i -> t.x.best(1, i), 0, 1);
+        t.each("by 2", "0 1 -1", i -> t.x.best(2, i), 0, 1, 2);
+        t.ask("a");
+        t.each("one that is above", "2 -1", i -> t.x.best(1, i), 0, 1);
+        t.each("one that is above, by 2", "2 0 -1", i -> t.x.best(2, i), 0, 1, 2);
+        t.each("by 3", "2 0 1 -1", i -> t.x.best(3, i), 0, 1, 2, 3);
+    }
+
+    /** "it is among the best by now (k at most, as ANSWERS)". */
+    private static void asAnswers() {
+        Tester t = Tester.with("27 as ANSWERS", "a", "a x x x", "a a", "a", "a x x x", "a a", "a a a");
+        t.ask("a");
+        // 500 333 666 500 333 666 750
+        for (int k = 1; k <= 10; k++) {
+            int by = k;
+            int[] all = {6, 2, 5, 0, 3, 1, 4};
+            for (int i = -1; i <= 10; i++) {
+                t.due("best by " + by, t.x.best(by, i), i >= 0 && i < Math.min(by, 7) ? all[i] : -1);
+            }
+        }
+    }
+
+    /** "or is ENDED": a WORD without POSTINGS. */
+    private static void endedAtFirst() {
+        Tester t = Tester.with("27 ENDED at first", "a", "b", "a");
+        t.x.remove(1);
+        t.x.repack(4);
+        t.ask("b");
+        dueEarly(t, 1, "0 0 1 0 0 0 0 0 0");
+        t.ask("b a");
+        dueEarly(t, 1, "1 500 2 1 2 1 0 1 0");
+        t.each("no block", "missing missing", b -> t.x.opened(1, 0, b), 0, 1);
+        t.each("no block", "missing missing", b -> t.x.depth(0, b), 0, 1);
+        // MOSTNEAR counts the word all the same: 450 more than the FLOOR of 500; none is at 1
+        t.ask("b a ~9");
+        dueEarly(t, 1, "1 500 4 1 2 3 0 2 0");
+    }
+
+    /** "(Without SCORED WORDS there are no TURNS.)" */
+    private static void noScoredWords() {
+        Tester t = Tester.with("27 without SCORED WORDS", "a");
+        dueEarly(t, 1, "0 0 0 0 0 0 0 0 0");
+        t.ask("-a ~9");
+        dueEarly(t, 10, "0 0 0 0 0 0 0 0 0");
+        t.row("swift", "2 0", () -> t.x.swift(1, 0), () -> t.x.swift(1, 1));
+        t.ask("a");
+        dueEarly(t, 1, "1 500 2 1 1 1 0 1 0");
+        Tester none = new Tester("27 without DOCUMENTS");
+        none.ask("a");
+        dueEarly(none, 1, "0 0 0 0 0 0 0 0 0");
+    }
+
+    private static void goneOnesAreLookedAt() {
+        Tester t = Tester.with("27 GONE", "a", "a", "a");
+        t.ask("a");
+        t.x.remove(0);
+        // 0 is no MATCH; 1 is 500
+        dueEarly(t, 1, "1 500 3 1 3 2 0 2 0");
+        t.x.remove(1);
+        t.x.remove(2);
+        dueEarly(t, 1, "0 0 4 1 3 3 0 3 0");
+        t.x.repack(4);
+        dueEarly(t, 1, "0 0 1 0 0 0 0 0 0");
+    }
+
+    private static void best() {
+        Tester t = alike("28 best", 12, "a");
+        t.ask("a");
+        t.each("by 10", "-1 -1 0 9 -1 -1", i -> t.x.best(10, i), LEAST, -1, 0, 9, 10, GREATEST);
+        t.each("by 1", "-1 0 -1", i -> t.x.best(1, i), -1, 0, 1);
+        t.each("k", "illegal 0 0 illegal illegal illegal", k -> t.x.best(k, 0), 0, 1, 10, 11, GREATEST, LEAST);
+        t.each("another k comes ahead of none", "illegal illegal", k -> t.x.best(k, 99), 0, 11);
+        t.ask("zz");
+        t.each("there are none", "-1 -1", i -> t.x.best(1, i), 0, -1);
+    }
+
+    private static void opened() {
+        Tester t = alike("29 opened", 9, "a b");
+        t.ask("a b");
+        // the best is 0; by 10 all are opened
+        t.each("by 1", "missing 1 0 0 missing missing missing", b -> t.x.opened(1, 0, b), -1, 0, 1, 2, 3, GREATEST,
+            LEAST);
+        t.each("by 10", "1 1 1", b -> t.x.opened(10, 1, b), 0, 1, 2);
+        t.each("scored words", "missing 1 1 missing missing missing", i -> t.x.opened(1, i, 0), -1, 0, 1, 2, GREATEST,
+            LEAST);
+        t.each("k", "illegal 1 1 illegal illegal illegal", k -> t.x.opened(k, 0, 0), 0, 1, 10, 11, GREATEST, LEAST);
+        t.each("no block comes ahead of k", "missing missing", k -> t.x.opened(k, 0, 3), 0, 11);
+        t.each("no scored word comes ahead of k", "missing missing", k -> t.x.opened(k, 2, 0), 0, 11);
+        t.x.repack(8);
+        t.each("by another SIZE", "1 0 missing", b -> t.x.opened(1, 0, b), 0, 1, 2);
+    }
+
+    /** "SIZE (2 to 8) by which WORK of EARLY by k is least (what 0), of alike ones the least; that WORK (1)." */
+    private static void swift() {
+        Tester t = alike("33 swift", 9, "a");
+        t.ask("a");
+        // the best is 0: one BLOCK, 2 of 2 POSTINGS; of ten all nine by any SIZE
+        t.each("by 1", "illegal 2 2 illegal illegal illegal", what -> t.x.swift(1, what), -1, 0, 1, 2, GREATEST, LEAST);
+        t.each("by 10", "2 9", what -> t.x.swift(10, what), 0, 1);
+        t.each("by 3", "3 3", what -> t.x.swift(3, what), 0, 1);
+        t.each("by 7", "7 7", what -> t.x.swift(7, what), 0, 1);
+        t.each("by 8", "2 8", what -> t.x.swift(8, what), 0, 1);
+        t.each("k", "illegal 2 9 illegal illegal illegal", k -> t.x.swift(k, 1), 0, 1, 10, 11, GREATEST, LEAST);
+        t.each("both", "illegal illegal", k -> t.x.swift(k, 2), 0, 11);
+        t.due("nothing stays changed", t.x.told(6), 4);
+    }
+
+    /** "The least k by which EARLY OPENS a BLOCK ..; NONE: by none": 1, 10, and one that 11 would be needed for. */
+    private static void depth() {
+        Tester t = alike("41 depth", 12, "a");
+        t.ask("a");
+        t.x.repack(3);
+        t.each("by three", "missing 1 4 7 10 missing missing missing", b -> t.x.depth(0, b), -1, 0, 1, 2, 3, 4, GREATEST,
+            LEAST);
+        t.x.repack(5);
+        t.each("by five", "1 6 -1 missing", b -> t.x.depth(0, b), 0, 1, 2, 3);
+        t.x.repack(2);
+        t.each("by two", "1 9 -1 missing", b -> t.x.depth(0, b), 0, 4, 5, 6);
+        t.each("scored words", "missing 1 missing missing missing", i -> t.x.depth(i, 0), -1, 0, 1, GREATEST, LEAST);
+    }
+}
