@@ -15,13 +15,19 @@ final class EdgeEarlyTest {
         boundIsFloor();
         boundIsAboveFloor();
         boundIsBelowFloor();
+        aboveFloorByOne();
+        belowFloorByOne();
+        orderedByPlace();
+        alikeAsInOrder();
         mostNearOfOneTwoThree();
         skippedAtFloor();
         notSkippedAboveFloor();
         skippedAtFloorWithMostNear();
         skippedToTheNextList();
         skippedToTheBlockBehind();
+        onlyThoseHereAreDipped();
         noBlockReaches();
+        noBlockReachesAndTheRestIsFloor();
         soughtToTheEnd();
         lastIsTheDocument();
         noneIsAtThePlace();
@@ -29,10 +35,14 @@ final class EdgeEarlyTest {
         asAnswers();
         endedAtFirst();
         noScoredWords();
+        mostScoredWords();
+        mostBlocks();
+        sparedFirstBlock();
         goneOnesAreLookedAt();
         best();
         opened();
         swift();
+        swiftByEight();
         depth();
         Tester.end("edges of early");
     }
@@ -94,6 +104,45 @@ final class EdgeEarlyTest {
         t.ask("a b");
         // 0: 500 and 1000; the BOUND of a is 500, b is ENDED
         dueEarly(t, 1, "1 1500 2 2 3 2 0 1 0");
+    }
+
+    /** BOUNDS and a SCORE of 1000 by a FLOOR of 999: no SKIP, and it is among the best. */
+    private static void aboveFloorByOne() {
+        Tester t = Tester.with("27 above FLOOR by one", "b x x x", "b x x x", "b x x x", "a", "a");
+        t.ask("b^3 a");
+        // 0: 3 times 333; P is 3, b is SOUGHT and ENDED; 3: 2 times 500; 4 is not above that
+        dueEarly(t, 1, "1 1000 4 2 5 3 0 2 0");
+        t.due("best", t.x.best(1, 0), 3);
+    }
+
+    /** BOUNDS of 999 by a FLOOR of 1000: a SKIP. */
+    private static void belowFloorByOne() {
+        Tester t = Tester.with("27 below FLOOR by one", "a", "a", "b x x x", "b x x x", "b x x x");
+        t.ask("a b^3");
+        // 0: 1000; P is 2, where b alone has a BLOCK: a skip beyond all
+        dueEarly(t, 1, "1 1000 3 1 2 1 1 1 1");
+        t.due("best", t.x.best(1, 0), 0);
+    }
+
+    /** "LISTS that are not ENDED are ordered by PLACE", however the WORDS stand in the QUESTION. */
+    private static void orderedByPlace() {
+        Tester t = Tester.with("27 ordered by PLACE", "a", "b", "c");
+        for (String question : new String[] {"a b c", "a c b", "b a c", "b c a", "c a b", "c b a"}) {
+            t.ask(question);
+            dueEarly(t, 10, "3 0 4 3 3 3 0 3 0");
+            t.each("best", "0 1 2", i -> t.x.best(10, i), 0, 1, 2);
+        }
+    }
+
+    /** "of alike ones as in order": which of two LISTS at one PLACE is SOUGHT first. */
+    private static void alikeAsInOrder() {
+        Tester t = Tester.with("27 alike ones as in order", "b c", "b", "a", "c");
+        t.ask("b a c");
+        // 0: 2000; P is 2, b and c are at 1: b is SOUGHT and ENDED, c is SOUGHT to 3; P is 3: a skip beyond all
+        dueEarly(t, 1, "1 2000 5 2 4 4 1 1 1");
+        t.ask("c a b");
+        // c is SOUGHT to 3 first; P is 2, a alone reaches it: a skip to 3; c is not above the FLOOR
+        dueEarly(t, 1, "1 2000 4 2 4 3 1 1 1");
     }
 
     /** "MOSTNEAR: 50 times w for each two SCORED WORDS one behind the other in order." */
@@ -159,13 +208,33 @@ final class EdgeEarlyTest {
         dueEarly(t, 1, "1 1500 6 3 4 3 2 3 1");
     }
 
+    /** "each of HERE .. is DIPPED": the first LIST that is not HERE stays where it is, though its BLOCK began before. */
+    private static void onlyThoseHereAreDipped() {
+        Tester t = Tester.with("27 those HERE", "a c", "b", "b", "b b", "a c");
+        t.x.repack(2);
+        t.ask("a b");
+        // 0: 1000; 1: 500, a goes to 4; a skip of b from 2 to 3; 3: 666; 4: 1000
+        dueEarly(t, 2, "2 1000 6 3 5 5 1 4 0");
+        t.each("best", "0 4 -1", i -> t.x.best(2, i), 0, 1, 2);
+    }
+
     /** "the first BLOCK, from its own on, whose LAST is not less than P, if there is one". */
     private static void noBlockReaches() {
         Tester t = Tester.with("27 no BLOCK reaches P", "a b", "b", "a", "x", "x", "b b");
         t.x.repack(2);
+        for (String question : new String[] {"a b", "b a", "a b"}) {
+            t.ask(question);
+            // 0: 1000 and 1000; at 1 a skip to 2; P is 5 then: a has no BLOCK there, b 1332: a skip beyond all
+            dueEarly(t, 1, "1 2000 4 2 4 2 2 1 1");
+        }
+    }
+
+    private static void noBlockReachesAndTheRestIsFloor() {
+        Tester t = Tester.with("27 no BLOCK reaches P, FLOOR", "b b", "a", "a", "x", "x", "b b");
+        t.x.repack(2);
         t.ask("a b");
-        // 0: 1000 and 1000; at 1 a skip to 2; P is 5 then: a has no BLOCK there, b 1332: a skip beyond all
-        dueEarly(t, 1, "1 2000 4 2 4 2 2 1 1");
+        // 0: 1332; 1 by both: 1000; P is 5 then: a has no BLOCK there, b just 1332: a skip beyond all
+        dueEarly(t, 1, "1 1332 4 2 4 3 1 2 0");
     }
 
     /** "(is there none, it is ENDED)": SOUGHT, but nothing is OPENED. */
@@ -192,6 +261,11 @@ final class EdgeEarlyTest {
         t.ask("a");
         // 0; 1 is SOUGHT, but not LOOKED AT; 2; none is left
         dueEarly(t, 10, "2 0 4 1 2 3 0 2 0");
+        Tester u = Tester.with("27 none is at P, in a later BLOCK", "a", "a", "a", "a", "a", "x", "a");
+        u.x.repack(2);
+        u.ask("a");
+        // 0 to 4; 5 is SOUGHT, but not LOOKED AT; 6; none is left
+        dueEarly(u, 10, "6 0 8 3 6 7 0 6 0");
     }
 
     /** "its SCORE is above FLOOR, or there are fewer than k": it is just FLOOR. */
@@ -252,6 +326,51 @@ final class EdgeEarlyTest {
         dueEarly(none, 1, "0 0 0 0 0 0 0 0 0");
     }
 
+    /** 24 SCORED WORDS, each with one BLOCK, and fewer of them then. */
+    private static void mostScoredWords() {
+        Tester t = Tester.with("27 most SCORED WORDS", "a b c d e f g h i j k l m n o p q r s t u v w x");
+        t.ask("\"a b c d\"\"e f g h\"\"i j k l\"\"m n o p\"\"q r s t\"\"u v w x\"");
+        // GAIN 1000 by 8
+        dueEarly(t, 1, "1 3000 2 24 24 24 0 1 0");
+        t.row("of the last", "1 missing 1 125 -1", () -> t.x.opened(1, 23, 0), () -> t.x.opened(1, 24, 0),
+            () -> t.x.depth(23, 0), () -> t.x.points(0, 23), () -> t.x.points(0, 24));
+        t.row("of all", "0 3000 0 24 1 0", () -> t.x.why(0), () -> t.x.score(0), () -> t.x.window(0, 0),
+            () -> t.x.window(0, 1), t.x::full, () -> t.x.without(1, 23));
+        t.ask("x w ~1");
+        dueEarly(t, 1, "1 300 2 2 2 2 0 1 0");
+        t.row("of two", "0 300 22 2 1 50", () -> t.x.why(0), () -> t.x.score(0), () -> t.x.window(0, 0),
+            () -> t.x.window(0, 1), t.x::full, () -> t.x.near(0));
+        String all = "a b c d e f g h i j k l m n o p q r s t u v w x";
+        Tester u = Tester.with("27 most SCORED WORDS, skipped", all, all, all, all, "x x");
+        u.x.repack(2);
+        u.ask("\"a b c d\"\"e f g h\"\"i j k l\"\"m n o p\"\"q r s t\"\"u v w x\"");
+        // 0: 3000; skips of all 24 to 2 and to 4, where x is left: 666
+        dueEarly(u, 1, "1 3000 4 24 48 24 2 1 25");
+    }
+
+    /** 32 BLOCKS, all of them gone through to the end. */
+    private static void mostBlocks() {
+        Tester t = alike("27 most BLOCKS", 64, "a b");
+        t.x.repack(2);
+        t.ask("a -b");
+        dueEarly(t, 1, "0 0 65 32 64 64 0 64 0");
+        t.each("opened", "1 1 missing", b -> t.x.opened(1, 0, b), 0, 31, 32);
+        t.ask("a b");
+        dueEarly(t, 10, "10 1000 11 10 20 20 0 10 54");
+    }
+
+    /** "A BLOCK that EARLY never OPENED is SPARED": the first one of a LIST, too. */
+    private static void sparedFirstBlock() {
+        Tester t = Tester.with("27 SPARED", "a", "b", "b", "b");
+        t.x.repack(2);
+        t.ask("a^9 b");
+        // a: 9 times 3 times 500; b, in two BLOCKS, is not above that
+        dueEarly(t, 1, "1 13500 2 1 1 1 0 1 2");
+        t.each("opened", "0 0 missing", b -> t.x.opened(1, 1, b), 0, 1, 2);
+        // by 2 the FLOOR is 500 as soon as 1 is there, by 3 as soon as 2 is
+        t.each("depth", "2 4 missing", b -> t.x.depth(1, b), 0, 1, 2);
+    }
+
     private static void goneOnesAreLookedAt() {
         Tester t = Tester.with("27 GONE", "a", "a", "a");
         t.ask("a");
@@ -305,6 +424,21 @@ final class EdgeEarlyTest {
         t.each("k", "illegal 2 9 illegal illegal illegal", k -> t.x.swift(k, 1), 0, 1, 10, 11, GREATEST, LEAST);
         t.each("both", "illegal illegal", k -> t.x.swift(k, 2), 0, 11);
         t.due("nothing stays changed", t.x.told(6), 4);
+    }
+
+    /** "SIZE (2 to 8)": the greatest is the best one here. */
+    private static void swiftByEight() {
+        Tester t = Tester.with("33 swift by 8", "b", "b b", "a", "b x x x", "a x x x", "a a b", "b b", "b b", "b", "a",
+            "b b", "a a", "b b");
+        t.ask("a b");
+        // by 8 the last BLOCK of b, 12 alone, is never OPENED: a comes with b to 10, and b goes to 12 from there;
+        // by others b is SOUGHT to 11, where a is, or has 12 in a BLOCK that is OPENED
+        t.each("swift", "8 13", what -> t.x.swift(2, what), 0, 1);
+        int[] work = {14, 14, 14, 14, 14, 14, 13};
+        for (int size = 2; size <= 8; size++) {
+            t.x.repack(size);
+            t.due("work by " + size, t.x.early(2, 4), work[size - 2]);
+        }
     }
 
     /** "The least k by which EARLY OPENS a BLOCK ..; NONE: by none": 1, 10, and one that 11 would be needed for. */

@@ -19,8 +19,10 @@ final class EdgeListsTest {
         widthOfCounts();
         widthOfPositionGaps();
         gapsGoOnFromBlockToBlock();
+        mostWords();
         told();
         document();
+        mostOften();
         at();
         word();
         withoutPostings();
@@ -246,6 +248,27 @@ final class EdgeListsTest {
         t.each("another first one", "6 missing", b -> t.x.block(0, b, 5), 0, 1);
     }
 
+    /** 255 WORDS are known: all that goes through WORDS goes up to the last one. */
+    private static void mostWords() {
+        StringBuilder[] texts = {new StringBuilder(), new StringBuilder(), new StringBuilder()};
+        for (int w = 0; w < 255; w++) {
+            texts[w / 90].append((char) ('a' + w / 26)).append((char) ('a' + w % 26)).append(' ');
+        }
+        Tester t = Tester.with("12 most WORDS", texts[0].toString(), texts[1].toString(), texts[2].toString());
+        // POSITIONS and 1 of 1 to 90: 510 bits, of 1 to 75: 405; each BLOCK 32, 1 or 2 for its DOCUMENT, 1 for COUNT
+        int bits = 90 * 34 + 510 + 90 * 35 + 510 + 75 * 35 + 405;
+        t.row("told", "255 255 255 " + bits, () -> t.x.told(2), () -> t.x.told(3), () -> t.x.told(4), () -> t.x.told(5));
+        t.row("by size", bits + " 2 255", () -> t.x.bits(8), t.x::thrift, () -> t.x.spread(1));
+        t.each("common", "0 254 missing", t.x::common, 0, 254, 255);
+        t.row("the last document", "75 75 180 1 180 75 0 0", () -> t.x.document(2, 0), () -> t.x.document(2, 1),
+            () -> t.x.document(2, 3), () -> t.x.document(2, 4), () -> t.x.rarest(2), () -> t.x.alike(2, 2),
+            () -> t.x.alike(2, 0), () -> t.x.nearest(2));
+        t.x.remove(2);
+        t.due("purged", t.x.repack(2), 1);
+        t.row("told", "255 180 75", () -> t.x.told(2), () -> t.x.told(3), () -> t.x.spread(0));
+        t.each("common", "179 180 254 missing", t.x::common, 179, 180, 254, 255);
+    }
+
     private static void told() {
         Tester t = new Tester("9 told");
         t.each("of a new object", "illegal 0 0 illegal illegal illegal", t.x::told, -1, 0, 9, 10, GREATEST, LEAST);
@@ -269,6 +292,14 @@ final class EdgeListsTest {
         t.x.repack(4);
         t.each("not purged", "missing 0 0", d -> t.x.document(d, 2), 0, 1, 2);
         t.each("purged comes ahead of what", "missing", d -> t.x.document(d, -1), 0);
+    }
+
+    /** "3 the WORD it has most often, of alike ones the lesser number, 4 how often that". */
+    private static void mostOften() {
+        Tester t = Tester.with("10 most often", "a b c", "c c b a", "b b a a c", "b c b", "c", "c b b c", "c b");
+        t.each("word", "0 2 0 1 2 1 1", d -> t.x.document(d, 3), 0, 1, 2, 3, 4, 5, 6);
+        t.each("how often", "1 2 2 2 1 2 1", d -> t.x.document(d, 4), 0, 1, 2, 3, 4, 5, 6);
+        t.each("unlike ones", "3 3 3 2 1 2 2", d -> t.x.document(d, 1), 0, 1, 2, 3, 4, 5, 6);
     }
 
     private static void at() {
@@ -412,6 +443,10 @@ final class EdgeListsTest {
             }
             t.row("thrift", sizes[i] + " 4", t.x::thrift, () -> t.x.told(6));
         }
+        // two COUNTS of 64 make the others of their BLOCK dear
+        Tester t = Tester.with("32 thrift in between", "a", "a", "a", "a", "a", "a", times(64, "a"), times(64, "a"));
+        t.each("bits", "290 258 238 232 226 262 230", t.x::bits, 2, 3, 4, 5, 6, 7, 8);
+        t.due("thrift", t.x.thrift(), 6);
     }
 
     private static void blockOf() {
@@ -463,6 +498,8 @@ final class EdgeListsTest {
         t.x.remove(1);
         t.x.repack(4);
         t.each("the only one that is left", "missing missing missing -1", t.x::nearest, 0, 1, 2, 3);
+        Tester u = Tester.with("37 nearest, most WORDS", "a b c", "a b", "a", "d", "a b c d");
+        u.each("most", "4 0 0 4 0", u.x::nearest, 0, 1, 2, 3, 4);
     }
 
     private static void rarest() {
@@ -486,5 +523,8 @@ final class EdgeListsTest {
         t.each("gone", "3", t.x::rarest, 3);
         t.x.repack(4);
         t.each("purged", "missing", t.x::rarest, 3);
+        Tester u = Tester.with("38 rarest, the lesser number", "r a", "a s s", "a r s r", "a", "a");
+        // r 5 by 2, a 1, s 5 by 2
+        u.each("the others do not come ahead", "0 2 0 1", u.x::rarest, 0, 1, 2, 3);
     }
 }

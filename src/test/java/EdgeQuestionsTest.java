@@ -19,8 +19,11 @@ final class EdgeQuestionsTest {
         noPart();
         firstFromTheLeft();
         aFaultChangesNothing();
+        aFaultLeavesNothingOpen();
         aNewQuestionChangesAll();
+        aShorterQuestion();
         boosts();
+        mostPoints();
         scoredWords();
         knownWhenTold();
         whyInOrder();
@@ -28,6 +31,7 @@ final class EdgeQuestionsTest {
         phrasePlaces();
         nearByEachDigit();
         nearInOrder();
+        mostNear();
         scored();
         documentsOfTheOthers();
         window();
@@ -40,6 +44,7 @@ final class EdgeQuestionsTest {
         phrase();
         without();
         withoutBeyondTen();
+        nearByThoseLeft();
         Tester.end("edges of questions");
     }
 
@@ -224,6 +229,20 @@ final class EdgeQuestionsTest {
         }
     }
 
+    /** A QUESTION is read anew, wherever the text before it had its FAULT. */
+    private static void aFaultLeavesNothingOpen() {
+        Tester t = Tester.with("4 read anew", "a b", "b a");
+        String[] faulty = {"", "a!", "+", "+a!", "-", "-b!", "-b^", "a^", "+a^", "~", "\"", "\"a", "\"a ", "\"a b",
+            "\"a b c d e", "abcdefghi", "a b a b a b a"};
+        for (String text : faulty) {
+            t.due("a fault", Math.max(t.ask(text), -8), -8);
+            t.due("ask behind " + text, t.ask("a b"), 2);
+            t.row("it is as told", "2 0 0 0 -1", () -> t.x.told(8), () -> t.x.scored(0, 2), () -> t.x.why(1),
+                () -> t.x.near(0), () -> t.x.phrase(0, 0));
+            t.row("boosts", "1 1", () -> t.x.scored(0, 1), () -> t.x.scored(1, 1));
+        }
+    }
+
     /** "are the QUESTION": nothing of the one before stays. */
     private static void aNewQuestionChangesAll() {
         Tester t = Tester.with("4 another QUESTION", "a b", "b a c");
@@ -235,6 +254,25 @@ final class EdgeQuestionsTest {
             () -> t.x.scored(1, 0), () -> t.x.scored(1, 1), () -> t.x.scored(1, 2), () -> t.x.scored(2, 0));
         t.row("none of these", "0 0 -1 0 2", () -> t.x.why(0), () -> t.x.why(1), () -> t.x.phrase(0, 0),
             () -> t.x.near(0), () -> t.x.told(8));
+    }
+
+    /** .. nor of one with more SCORED WORDS, more of NOT, more PHRASES. */
+    private static void aShorterQuestion() {
+        Tester t = Tester.with("4 a shorter QUESTION", "a b c d", "a d", "d e f");
+        t.due("ask", t.ask("+a^2 +b^3 +c^4 -e -f"), 3);
+        t.each("why", "0 3 2", t.x::why, 0, 1, 2);
+        t.due("ask", t.ask("d"), 1);
+        // GAIN of d: 1 by 3, 2, 2; nothing of a, b, c
+        t.each("why", "0 0 0", t.x::why, 0, 1, 2);
+        t.each("score", "333 500 500", t.x::score, 0, 1, 2);
+        t.each("window", "1 1 1", d -> t.x.window(d, 1), 0, 1, 2);
+        t.due("full", t.x.full(), 3);
+        t.due("ask", t.ask("d -e"), 1);
+        t.each("why", "0 0 4", t.x::why, 0, 1, 2);
+        t.due("ask", t.ask("\"a b\" \"b c\" \"c d\""), 4);
+        t.due("ask", t.ask("\"a d\""), 2);
+        t.each("why", "5 0 3", t.x::why, 0, 1, 2);
+        t.each("phrases", "1 -1 -1", j -> t.x.phrase(1, j), 0, 1, 2);
     }
 
     /** "its BOOST is what its "^" tell together (1 for one without, also for each time in a PHRASE)": 1 to 54. */
@@ -250,6 +288,20 @@ final class EdgeQuestionsTest {
             // RARE 1, GAIN 500
             t.due("points by " + texts[i], t.x.points(0, 0), boosts[i] * 500);
         }
+    }
+
+    /** BOOST 54, RARE 7, GAIN 797: the most there can be of each. */
+    private static void mostPoints() {
+        Tester t = new Tester("21 most POINTS");
+        t.add(times(150, "z"));
+        for (int i = 1; i < 64; i++) {
+            t.add("y");
+        }
+        t.ask("z^9 z^9 z^9 z^9 z^9 z^9");
+        int most = 54 * 7 * 797;
+        t.row("all of it", most + " " + most + " " + most + " " + most + " " + most + " " + most,
+            () -> t.x.points(0, 0), () -> t.x.score(0), () -> t.x.answer(0, 1), () -> t.x.early(1, 1),
+            () -> t.x.scored(0, 3), () -> t.x.inside(0, 0));
     }
 
     /** SCORED: "in order as they stand first, each once"; 24 at most: six PHRASES of 4 WORDS. */
@@ -371,6 +423,15 @@ final class EdgeQuestionsTest {
         t.due("149 apart", t.x.near(4), 0);
     }
 
+    /** 20 SCORED WORDS and "~9": 19 times 450 is the most there can be. */
+    private static void mostNear() {
+        Tester t = Tester.with("22 most NEAR", "a b c d e f g h i j k l m n o p q r s t", "t");
+        t.due("ask", t.ask("\"a b c d\"\"e f g h\"\"i j k l\"\"m n o p\"\"q r s t\"~9"), 20);
+        // GAIN 1000 by 7, 142: 19 times by RARE 2, and t by 1
+        t.row("near, score, early", "8550 14088 14088 2", () -> t.x.near(0), () -> t.x.score(0),
+            () -> t.x.early(1, 1), () -> t.x.early(1, 2));
+    }
+
     /** scored: "NONE: there are not so many", "what 0 to 3". */
     private static void scored() {
         Tester t = Tester.with("19 scored", "a b", "a");
@@ -478,6 +539,12 @@ final class EdgeQuestionsTest {
         t.each("gone: none", "0", b -> t.x.inside(0, b), 2);
         t.x.repack(2);
         t.each("purged: no block", "666 missing", b -> t.x.inside(0, b), 1, 2);
+        Tester u = Tester.with("30 inside, not beyond", "a a", "a x x x", "a", "a a a", "a x x x");
+        u.x.repack(2);
+        u.ask("a");
+        u.each("each its own", "666 750 333", b -> u.x.inside(0, b), 0, 1, 2);
+        u.x.repack(3);
+        u.each("each its own", "666 750 missing", b -> u.x.inside(0, b), 0, 1, 2);
     }
 
     /** "(0, if there are none of these)". */
@@ -550,5 +617,18 @@ final class EdgeQuestionsTest {
         t.each("without b", "0 0 0 0", k -> t.x.without(k, 1), 1, 2, 3, 10);
         // without a the last two have none, the others 2250
         t.each("without a", "1 2 2 2", k -> t.x.without(k, 0), 1, 2, 3, 10);
+    }
+
+    /** "NEAR go by those left": the WORDS ahead and behind stand one behind the other then. */
+    private static void nearByThoseLeft() {
+        Tester t = Tester.with("42 NEAR by those left", "a x x x c b", "a c x x x b", "a", "b", "c");
+        t.ask("a b c ~9");
+        // three of 333 in 0 and in 1; near 250 and 450, 250 and 300
+        t.each("near", "700 550", t.x::near, 0, 1);
+        t.row("first", "0 1", () -> t.x.answer(0, 0), () -> t.x.answer(1, 0));
+        // without b: a c: 300, 450; without a: b c: 450, 300; without c: a b: 250, 250
+        t.each("without b", "1 0", k -> t.x.without(k, 1), 1, 2);
+        t.each("without a", "0 0", k -> t.x.without(k, 0), 1, 2);
+        t.each("without c", "0 0", k -> t.x.without(k, 2), 1, 2);
     }
 }
