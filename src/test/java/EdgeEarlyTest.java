@@ -31,6 +31,7 @@ final class EdgeEarlyTest {
         soughtToTheEnd();
         lastIsTheDocument();
         noneIsAtThePlace();
+        placeWithinABlock();
         scoreIsFloor();
         asAnswers();
         endedAtFirst();
@@ -268,6 +269,19 @@ final class EdgeEarlyTest {
         dueEarly(u, 10, "6 0 8 3 6 7 0 6 0");
     }
 
+    /** "PLACE is the least DOCUMENT of it that is not less": the third, the fourth of its BLOCK, too. */
+    private static void placeWithinABlock() {
+        Tester t = Tester.with("27 PLACE within a BLOCK", "z a", "x", "a", "x", "x", "a");
+        t.ask("a");
+        // 0; at 1 a goes to 2; 2; at 3 a goes to 5; 5; none is left
+        dueEarly(t, 10, "3 0 6 1 3 5 0 3 0");
+        Tester u = Tester.with("27 PLACE within the second BLOCK", "a", "a", "a", "a", "a", "a", "x", "x", "a", "x", "x",
+            "a");
+        u.ask("a");
+        // 0 to 5; at 6 a goes to 8; 8; at 9 a goes to 11; 11; none is left
+        dueEarly(u, 10, "8 0 11 2 8 10 0 8 0");
+    }
+
     /** "its SCORE is above FLOOR, or there are fewer than k": it is just FLOOR. */
     private static void scoreIsFloor() {
         Tester t = Tester.with("27 SCORE is FLOOR", "a", "a", "a a z");
@@ -438,6 +452,7 @@ final class EdgeEarlyTest {
         for (int size = 2; size <= 8; size++) {
             t.x.repack(size);
             t.due("work by " + size, t.x.early(2, 4), work[size - 2]);
+            t.each("swift, whatever SIZE is now", "8 13", what -> t.x.swift(2, what), 0, 1);
         }
     }
 

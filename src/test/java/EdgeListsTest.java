@@ -223,6 +223,11 @@ final class EdgeListsTest {
         Tester v = Tester.with("14 WIDTH 2 of more postings", "a z z z a", "a a", "z a");
         // 32, three of 1 and 2, five of 3
         v.row("the greatest of all", "3 56", () -> v.x.block(0, 0, 7), () -> v.x.block(0, 0, 4));
+        Tester w = Tester.with("14 WIDTH 2, the greatest ahead", "a b b", "c d d d c c");
+        // GAPS of b 2 1, of c 1 4 1, of d 2 1 1
+        w.each("width", "1 2 3 2", word -> w.x.block(word, 0, 7), 0, 1, 2, 3);
+        // c: 32, DOCUMENT 1 and 1 of 2 bits, COUNT 3 of 2, three POSITIONS of 3
+        w.due("bits", w.x.block(2, 0, 4), 32 + 2 + 2 + 9);
     }
 
     /** "0 GAPS of a POSTING: its DOCUMENT less the one of the POSTING ahead of it in the LIST", over the BLOCK's edge. */
@@ -526,5 +531,8 @@ final class EdgeListsTest {
         Tester u = Tester.with("38 rarest, the lesser number", "r a", "a s s", "a r s r", "a", "a");
         // r 5 by 2, a 1, s 5 by 2
         u.each("the others do not come ahead", "0 2 0 1", u.x::rarest, 0, 1, 2, 3);
+        Tester v = Tester.with("38 rarest, RARE ahead of how often", "r a a", "a a s", "a", "a");
+        // r 4 by 1, a 1, s 4 by 1
+        v.each("once, but rarer", "0 2 1 1", v.x::rarest, 0, 1, 2, 3);
     }
 }

@@ -28,6 +28,7 @@ final class EdgeQuestionsTest {
         knownWhenTold();
         whyInOrder();
         mustNotKnown();
+        noneOfNot();
         phrasePlaces();
         nearByEachDigit();
         nearInOrder();
@@ -121,6 +122,11 @@ final class EdgeQuestionsTest {
                 letter || s == ' ' ? "fine" : s == '"' ? "1 at 7" : "1 at 4");
             faults("4 sign " + sign + " first in a PHRASE", "\"" + s + "b c\"",
                 letter || s == ' ' ? "fine" : "1 at 1");
+            boolean seventh = "+-\"~".indexOf(s) >= 0;
+            faults("4 sign " + sign + " behind six PARTS", "a b c d e f " + s,
+                letter || seventh ? "2 at 12" : s == ' ' ? "fine" : "1 at 12");
+            faults("4 sign " + sign + " behind the sixth WORD", "a b c d e f" + s,
+                letter || s == ' ' ? "fine" : seventh ? "2 at 11" : s == '^' ? "1 at 12" : "1 at 11");
         }
     }
 
@@ -359,6 +365,19 @@ final class EdgeQuestionsTest {
         t.due("no scored word", t.x.why(0), 2);
     }
 
+    /** "none of NOT": the first of them, in between, up to the sixth; "known ones with "-"". */
+    private static void noneOfNot() {
+        Tester t = Tester.with("20 NOT", "a", "a b", "a c", "a d", "a e", "a f", "b c d e f", "f");
+        t.ask("a -b -c -d -e -f");
+        t.each("five", "0 4 4 4 4 4 2 2", t.x::why, 0, 1, 2, 3, 4, 5, 6, 7);
+        t.ask("a -zz -c -yy -f");
+        t.each("the second and the fourth", "0 0 4 0 0 4 2 2", t.x::why, 0, 1, 2, 3, 4, 5, 6, 7);
+        t.ask("-a -b -c -d -e -f");
+        t.each("six, and no scored word", "2 2 2 2 2 2 2 2", t.x::why, 0, 1, 2, 3, 4, 5, 6, 7);
+        t.ask("-e -d a -d");
+        t.each("one twice", "0 0 0 4 4 0 2 2", t.x::why, 0, 1, 2, 3, 4, 5, 6, 7);
+    }
+
     /** "its WORDS at POSITIONS one behind the other": at the first one, in between, up to the last. */
     private static void phrasePlaces() {
         Tester t = Tester.with("20 PHRASE", "a b x x", "x a b x", "x x a b", "a b", "a x b", "b a", "a", "b", "x a",
@@ -482,6 +501,10 @@ final class EdgeQuestionsTest {
         t.each("three words", "150 1 2 2 3 1 3", d -> t.x.window(d, 1), 0, 1, 2, 3, 4, 5, 6);
         t.ask("zz");
         t.each("no words", "-1 0", what -> t.x.window(0, what), 0, 1);
+        Tester u = Tester.with("23 window of a longer one", "x", "x x a b", "b x x x x a b a");
+        u.ask("a b");
+        u.each("begins", "-1 2 5", d -> u.x.window(d, 0), 0, 1, 2);
+        u.each("how many", "0 2 2", d -> u.x.window(d, 1), 0, 1, 2);
     }
 
     /** "the greatest SCORE first, of alike ones the lesser number first". */
@@ -545,6 +568,12 @@ final class EdgeQuestionsTest {
         u.each("each its own", "666 750 333", b -> u.x.inside(0, b), 0, 1, 2);
         u.x.repack(3);
         u.each("each its own", "666 750 missing", b -> u.x.inside(0, b), 0, 1, 2);
+        Tester v = Tester.with("30 inside, LISTS of their own length", "x a a", "a b", "a", "a a a a");
+        v.x.repack(2);
+        v.ask("a");
+        // a: 2000 by 3, 1000 by 2, 1000 by 2, 4000 by 6; x stands in 0, a in all, b in 1
+        v.row("x, a, b", "666 666 666 missing 500", () -> v.x.inside(0, 0), () -> v.x.inside(1, 0),
+            () -> v.x.inside(1, 1), () -> v.x.inside(1, 2), () -> v.x.inside(2, 0));
     }
 
     /** "(0, if there are none of these)". */
@@ -630,5 +659,10 @@ final class EdgeQuestionsTest {
         t.each("without b", "1 0", k -> t.x.without(k, 1), 1, 2);
         t.each("without a", "0 0", k -> t.x.without(k, 0), 1, 2);
         t.each("without c", "0 0", k -> t.x.without(k, 2), 1, 2);
+        Tester u = Tester.with("42 NEAR without the first", "c b x x x x a", "a b x x c x x");
+        u.ask("a b c ~9");
+        // 250 and 450, 450 and 350: 1 0; without a 450, 350: 0 1; without c 250, 450; without b a c: 200, 300
+        u.each("near", "700 800", u.x::near, 0, 1);
+        u.each("without each", "1 0 0 -1", i -> u.x.without(1, i), 0, 1, 2, 3);
     }
 }

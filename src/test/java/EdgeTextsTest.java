@@ -28,6 +28,7 @@ final class EdgeTextsTest {
         wordsFound();
         faultPlaces();
         removed();
+        goneStaysGone();
         removedAll();
         sizes();
         refusedRepack();
@@ -333,6 +334,9 @@ final class EdgeTextsTest {
             () -> t.find("\u00e1"));
         // a sign just below a counts as no letter at all, not as one worth nothing
         t.row("signs ahead of a known one", "-1 -1", () -> t.find("`a"), () -> t.find("\0a"));
+        // .. and one far below it does not make up for the letter ahead of it
+        t.row("signs behind a known one", "-1 -1 -1 -1", () -> t.find("aA"), () -> t.find("aZ"), () -> t.find("a`"),
+            () -> t.find("abcdefgA"));
         t.row("asking makes none known", "4 -1", () -> t.x.told(2), () -> t.find("b"));
     }
 
@@ -373,6 +377,23 @@ final class EdgeTextsTest {
         t.x.repack(4);
         t.due("a new one", t.add("a"), 3);
         t.each("of one", "missing 1 missing", t.x::remove, 4, 3, 3);
+    }
+
+    /** "A DOCUMENT is GONE from now on", whatever comes then. */
+    private static void goneStaysGone() {
+        Tester t = Tester.with("7 from now on", "a", "a b", "b");
+        t.x.remove(0);
+        t.x.remove(2);
+        t.due("another one comes", t.add("a b"), 3);
+        t.due("another with a fault", t.add("a !"), -9);
+        t.ask("a b");
+        t.each("gone", "1 0 1 0", d -> t.x.document(d, 2), 0, 1, 2, 3);
+        t.each("why", "1 0 1 0", t.x::why, 0, 1, 2, 3);
+        t.row("told", "4 2 2", () -> t.x.told(0), () -> t.x.told(1), t.x::answers);
+        t.each("once alone", "missing missing", t.x::remove, 0, 2);
+        t.due("purged", t.x.repack(4), 2);
+        t.due("another one comes", t.add("a"), 4);
+        t.each("purged, too", "missing 0 missing 0 0", d -> t.x.document(d, 2), 0, 1, 2, 3, 4);
     }
 
     /** All 64 at once: "GONE ones count until they are PURGED". */
