@@ -44,6 +44,7 @@ final class EdgeEarlyTest {
         opened();
         swift();
         swiftByEight();
+        swiftByAnotherSize();
         depth();
         Tester.end("edges of early");
     }
@@ -453,6 +454,21 @@ final class EdgeEarlyTest {
             t.x.repack(size);
             t.due("work by " + size, t.x.early(2, 4), work[size - 2]);
             t.each("swift, whatever SIZE is now", "8 13", what -> t.x.swift(2, what), 0, 1);
+        }
+    }
+
+    /** BLOCKS are those of the SIZE that is tried, not of SIZE now. */
+    private static void swiftByAnotherSize() {
+        Tester t = Tester.with("33 swift by 3", "a a", "a", "x", "x", "x", "b", "b", "x", "x", "a a", "a");
+        t.ask("a^9 b");
+        // a RARE 2, b RARE 3; 0: 11988, as the BOUND of a is; P is 5, a is SOUGHT to it and goes to 9, b alone is 1500:
+        // a skip from 9; by 2 a has 9 in its second BLOCK with 10, by 3 in its first one, 10 by itself
+        int[] work = {4, 3, 4, 4, 4, 4, 4};
+        for (int size = 2; size <= 8; size++) {
+            t.x.repack(size);
+            dueEarly(t, 1, "1 11988 4 " + (size == 2 ? 2 : 1) + " " + work[size - 2] + " 2 1 1 "
+                + (size < 4 ? size - 1 : 1));
+            t.each("swift, whatever SIZE is now", "3 3", what -> t.x.swift(1, what), 0, 1);
         }
     }
 

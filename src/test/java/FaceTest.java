@@ -5,7 +5,10 @@ import java.lang.reflect.Modifier;
 import java.nio.file.Files;
 import java.nio.file.Path;
 import java.util.Arrays;
+import java.util.Collections;
+import java.util.List;
 import java.util.TreeSet;
+import java.util.regex.Matcher;
 import java.util.regex.Pattern;
 import java.util.stream.Collectors;
 
@@ -18,6 +21,7 @@ final class FaceTest {
 
     public static void main(String[] args) throws Exception {
         face();
+        faceOfTheDocument();
         names();
         source();
         status();
@@ -53,6 +57,25 @@ final class FaceTest {
                 .filter(f -> !Modifier.isStatic(f.getModifiers())).count() <= 20 ? 1 : 0, 1);
         }
         t.due("twelve classes at most", c.getDeclaredClasses().length < 12 ? 1 : 0, 1);
+        t.due("twenty fields at most", (int) Arrays.stream(c.getDeclaredFields())
+            .filter(f -> !Modifier.isStatic(f.getModifiers())).count() <= 20 ? 1 : 0, 1);
+    }
+
+    /** "The public face", line by line as the document has it, exceptions and names of numbers too. */
+    private static void faceOfTheDocument() throws Exception {
+        Tester t = new Tester("The public face");
+        String document = Files.readString(Path.of("../shared/DOC.md"));
+        Matcher block = Pattern.compile("(?s)## The public face\\s+```java\n(.*?)```").matcher(document);
+        t.due("it is there", block.find() ? 1 : 0, 1);
+        List<String> source = Files.readAllLines(Path.of("src/main/java/EarlyAnswers.java"));
+        List<String> due = block.group(1).lines().filter(line -> line.matches(".*[;{]")).toList();
+        t.due("lines of the document", due.size(), 46);
+        for (String line : due) {
+            boolean method = line.endsWith(");") || line.contains(" throws ");
+            t.due(line, Collections.frequency(source, method ? line.replace(";", " {") : line), 1);
+        }
+        long faced = source.stream().filter(line -> line.strip().startsWith("public ")).count();
+        t.due("lines of the source", (int) faced, due.size() - 1);
     }
 
     private static void names() {

@@ -1,9 +1,14 @@
 import com.sun.source.tree.BlockTree;
 import com.sun.source.tree.ClassTree;
 import com.sun.source.tree.CompilationUnitTree;
+import com.sun.source.tree.ExpressionTree;
 import com.sun.source.tree.MethodInvocationTree;
 import com.sun.source.tree.MethodTree;
+import com.sun.source.tree.NewArrayTree;
 import com.sun.source.tree.NewClassTree;
+import com.sun.source.tree.ThrowTree;
+import com.sun.source.tree.Tree;
+import com.sun.source.tree.VariableTree;
 import com.sun.source.util.JavacTask;
 import com.sun.source.util.TreePathScanner;
 import com.sun.source.util.Trees;
@@ -17,16 +22,23 @@ import java.util.List;
 import java.util.Map;
 import java.util.Set;
 import javax.lang.model.element.Element;
+import javax.lang.model.element.ElementKind;
+import javax.lang.model.element.Modifier;
 import javax.tools.JavaCompiler;
 import javax.tools.StandardJavaFileManager;
 import javax.tools.ToolProvider;
 
-/** The sizes that LANGUAGE.md names in rules 8 and 11, by the compiler's own tree of the source. */
+/**
+ * What LANGUAGE.md names in rules 4, 5, 6, 8, 11 and 12 and can be seen in the compiler's own tree of the source: sizes,
+ * the library that is called, static fields, throws, and what is made outside constructors.
+ */
 final class LanguageTest {
     private static final int MOST_LINES = 60;
     private static final int DEEPEST = 8;
     private static final int MOST_CLASSES = 12;
     private static final int MOST_PARAMETERS = 7;
+    private static final Set<String> LIBRARY = Set.of("java.lang.Math.max", "java.lang.Math.min", "java.lang.Math.abs");
+    private static final Set<String> THROWN = Set.of("NoSuchElementException", "IllegalArgumentException");
 
     private static final Map<Element, Set<Element>> CALLS = new LinkedHashMap<>();
     private static final Map<Element, Integer> DEPTHS = new HashMap<>();
@@ -81,13 +93,50 @@ final class LanguageTest {
             @Override
             public Void visitMethodInvocation(MethodInvocationTree tree, Element method) {
                 note(method);
+                Element called = trees.getElement(getCurrentPath());
+                String name = called.getEnclosingElement() + "." + called.getSimpleName();
+                if (name.startsWith("java") && called.getKind() != ElementKind.CONSTRUCTOR) {
+                    t.due("rule 4: " + name, LIBRARY.contains(name) ? 1 : 0, 1);
+                }
                 return super.visitMethodInvocation(tree, method);
             }
 
             @Override
             public Void visitNewClass(NewClassTree tree, Element method) {
                 note(method);
+                boolean thrown = getCurrentPath().getParentPath().getLeaf().getKind() == Tree.Kind.THROW;
+                t.due("rule 12: " + tree + " by " + method, thrown || makes(method) ? 1 : 0, 1);
                 return super.visitNewClass(tree, method);
+            }
+
+            @Override
+            public Void visitNewArray(NewArrayTree tree, Element method) {
+                t.due("rule 12: " + tree + " by " + method, makes(method) ? 1 : 0, 1);
+                return super.visitNewArray(tree, method);
+            }
+
+            /** Whether it is a constructor, or what stands beside a field. */
+            private boolean makes(Element method) {
+                return method == null || method.getKind() == ElementKind.CONSTRUCTOR;
+            }
+
+            @Override
+            public Void visitThrow(ThrowTree tree, Element method) {
+                ExpressionTree thrown = tree.getExpression();
+                boolean fine = thrown instanceof NewClassTree made && THROWN.contains(made.getIdentifier().toString())
+                    && made.getArguments().stream().allMatch(a -> a.getKind() == Tree.Kind.STRING_LITERAL);
+                t.due("rule 6: " + tree, fine && !makes(method) ? 1 : 0, 1);
+                return super.visitThrow(tree, method);
+            }
+
+            @Override
+            public Void visitVariable(VariableTree tree, Element method) {
+                Set<Modifier> modifiers = tree.getModifiers().getFlags();
+                if (modifiers.contains(Modifier.STATIC)) {
+                    t.due("rule 5: " + tree, modifiers.contains(Modifier.FINAL)
+                        && tree.getType().toString().equals("int") ? 1 : 0, 1);
+                }
+                return super.visitVariable(tree, method);
             }
 
             private void note(Element method) {
